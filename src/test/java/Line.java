@@ -1,5 +1,3 @@
-import java.nio.charset.StandardCharsets;
-
 /** What a test does with a monitor again and again. */
 final class Line {
     private Line() {
@@ -18,16 +16,21 @@ final class Line {
 
     /** The text comes on the (empty) tape, to the byte. */
     static void type(LineMonitor m, String text) {
-        byte[] bytes = text.getBytes(StandardCharsets.ISO_8859_1);
-        for (int from = 0; from < bytes.length; from += 20) {
-            int[] n = new int[5];
-            for (int i = 0; i < 20; i++) {
-                int b = from + i < bytes.length ? bytes[from + i] & 255 : 0;
-                n[i / 4] = n[i / 4] << 8 | b;
-            }
+        for (int from = 0; from < text.length(); from += 20) {
+            int[] n = packed(text, from);
             m.feed(n[0], n[1], n[2], n[3], n[4]);
         }
-        m.end(bytes.length);
+        m.end(text.length());
+    }
+
+    /** Twenty bytes of the text as feed() wants them, with zeros behind its end. */
+    static int[] packed(String text, int from) {
+        int[] n = new int[5];
+        for (int i = 0; i < 20; i++) {
+            int b = from + i < text.length() ? text.charAt(from + i) & 255 : 0;
+            n[i / 4] = n[i / 4] << 8 | b;
+        }
+        return n;
     }
 
     static int assemble(LineMonitor m, int u, String text) {
