@@ -571,7 +571,9 @@ public final class LineMonitor {
                 return;
             }
             rowSize--;
-            System.arraycopy(row, 1, row, 0, row.length - 1);
+            for (int i = 1; i < row.length; i++) {
+                row[i - 1] = row[i];
+            }
             next.state = RUNS;
             next.toRun = quantum;
             runner = next;
