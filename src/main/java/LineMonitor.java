@@ -33,20 +33,20 @@ public final class LineMonitor {
 
     private final Tape tape;
     private final Assembler assembler;
-    /** Null ahead of open(). */
-    private House home;
+    private final House home;
 
     public LineMonitor() {
         tape = new Tape();
         assembler = new Assembler(tape);
+        home = new House();
     }
 
     public int open(int users, int fields, int quantum, int beat) {
-        if (home != null || !within(users, 1, MOST_USERS) || !within(fields, 1, MOST_FIELDS)
+        if (home.isOpen() || !within(users, 1, MOST_USERS) || !within(fields, 1, MOST_FIELDS)
                 || !within(quantum, 1, 64) || !within(beat, 4, 1000)) {
             return -1;
         }
-        home = new House(users, fields, quantum, beat);
+        home.begin(users, fields, quantum, beat);
         return 1;
     }
 
@@ -67,7 +67,7 @@ public final class LineMonitor {
     }
 
     public int assemble(int u) {
-        User user = userAt(u);
+        User user = home.userAt(u);
         if (user == null) {
             return -1;
         }
@@ -86,7 +86,7 @@ public final class LineMonitor {
     }
 
     public int poke(int u, int a, int v) {
-        User user = userAt(u);
+        User user = home.userAt(u);
         if (user == null || !isWord(a) || !isWord(v)) {
             return -1;
         }
@@ -95,12 +95,12 @@ public final class LineMonitor {
     }
 
     public int peek(int u, int a) {
-        User user = userAt(u);
+        User user = home.userAt(u);
         return user == null || !isWord(a) ? -1 : user.words[a];
     }
 
     public int store(int u, int b, int i, int v) {
-        User user = userAt(u);
+        User user = home.userAt(u);
         if (user == null || !isInFile(b, i) || !isWord(v)) {
             return -1;
         }
@@ -109,12 +109,12 @@ public final class LineMonitor {
     }
 
     public int block(int u, int b, int i) {
-        User user = userAt(u);
+        User user = home.userAt(u);
         return user == null || !isInFile(b, i) ? -1 : user.file[b * BLOCK_WORDS + i];
     }
 
     public int switches(int u, int v) {
-        User user = userAt(u);
+        User user = home.userAt(u);
         if (user == null || !isWord(v)) {
             return -1;
         }
@@ -123,8 +123,8 @@ public final class LineMonitor {
     }
 
     public int start(int u, int a) {
-        User user = userAt(u);
-        if (home == null || user == null || !isWord(a)) {
+        User user = home.userAt(u);
+        if (user == null || !isWord(a)) {
             return -1;
         }
         if (user.state != STOPPED) {
@@ -137,8 +137,8 @@ public final class LineMonitor {
     }
 
     public int key(int u, int c) {
-        User user = userAt(u);
-        if (home == null || user == null || !within(c, 0, 255)) {
+        User user = home.userAt(u);
+        if (user == null || !within(c, 0, 255)) {
             return -1;
         }
         if (!user.input.add(c)) {
@@ -153,7 +153,7 @@ public final class LineMonitor {
     }
 
     public int run(int n) {
-        if (home == null || !within(n, 0, 1000)) {
+        if (!home.isOpen() || !within(n, 0, 1000)) {
             return -1;
         }
         int busy = 0;
@@ -166,31 +166,31 @@ public final class LineMonitor {
     }
 
     public int about(int u, int what) {
-        User user = userAt(u);
+        User user = home.userAt(u);
         return user == null ? -1 : user.tell(what);
     }
 
     public int letter(int u, int i) {
-        User user = userAt(u);
+        User user = home.userAt(u);
         return user == null ? -1 : user.onPaper(i);
     }
 
     public int waiting(int u, int i) {
-        User user = userAt(u);
+        User user = home.userAt(u);
         return user == null ? -1 : user.input.at(i);
     }
 
     public int queued(int u, int i) {
-        User user = userAt(u);
+        User user = home.userAt(u);
         return user == null ? -1 : user.output.at(i);
     }
 
     public int house(int what) {
-        return home == null ? -1 : home.tell(what);
+        return home.tell(what);
     }
 
     public int row(int i) {
-        return home == null ? -1 : home.inRow(i);
+        return home.inRow(i);
     }
 
     public long digest() {
@@ -199,7 +199,7 @@ public final class LineMonitor {
             d = d * 31 + house(what);
         }
         for (int u = 0; u < MOST_USERS; u++) {
-            User user = userAt(u);
+            User user = home.userAt(u);
             if (user != null) {
                 d = digestOf(user, d);
             }
@@ -219,11 +219,6 @@ public final class LineMonitor {
             d = d * 31 + word;
         }
         return d;
-    }
-
-    /** Null if u is not a USER's number. */
-    private User userAt(int u) {
-        return home == null || u < 0 || u >= home.users.length ? null : home.users[u];
     }
 
     private static boolean within(int n, int lowest, int highest) {
@@ -529,10 +524,13 @@ public final class LineMonitor {
 
     /** THE HOUSE: who RUNS, who is in the ROW, and whose memory is in which FIELD. */
     private static final class House {
-        final User[] users;
-        final int fields;
-        final int quantum;
-        final int beat;
+        /** As many as there can be, so that open() need not make any. */
+        final User[] users = new User[MOST_USERS];
+        /** 0 ahead of open(). */
+        int userCount;
+        int fields;
+        int quantum;
+        int beat;
         final User[] row = new User[MOST_USERS];
         int rowSize;
         /** Place 0 stays empty, for FIELDS are counted from 1. */
@@ -546,14 +544,26 @@ public final class LineMonitor {
         int swaps;
         int idle;
 
-        House(int userCount, int fields, int quantum, int beat) {
-            users = new User[MOST_USERS < userCount || userCount < 0 ? 0 : userCount];
+        House() {
             for (int u = 0; u < users.length; u++) {
                 users[u] = new User(u);
             }
-            this.fields = fields;
-            this.quantum = quantum;
-            this.beat = beat;
+        }
+
+        boolean isOpen() {
+            return userCount > 0;
+        }
+
+        void begin(int itsUsers, int itsFields, int itsQuantum, int itsBeat) {
+            userCount = itsUsers;
+            fields = itsFields;
+            quantum = itsQuantum;
+            beat = itsBeat;
+        }
+
+        /** Null if u is not a USER's number; ahead of open() none is. */
+        User userAt(int u) {
+            return u < 0 || u >= userCount || u >= users.length ? null : users[u];
         }
 
         void makeReady(User user) {
@@ -624,7 +634,8 @@ public final class LineMonitor {
 
         private void tick() {
             ticks++;
-            for (User user : users) {
+            for (int u = 0; u < userCount; u++) {
+                User user = userAt(u);
                 if (user != null) {
                     tickOf(user);
                 }
@@ -662,9 +673,13 @@ public final class LineMonitor {
             return user == null ? -1 : user.number;
         }
 
+        /** -1 for all ahead of open(). */
         int tell(int what) {
+            if (!isOpen()) {
+                return -1;
+            }
             switch (what) {
-                case 0: return users.length;
+                case 0: return userCount;
                 case 1: return fields;
                 case 2: return quantum;
                 case 3: return beat;

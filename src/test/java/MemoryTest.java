@@ -2,7 +2,7 @@
 public final class MemoryTest {
     private static final Check CHECK = new Check();
     private static final int[] NOT_WORDS = {-1, 4096, Integer.MIN_VALUE, Integer.MAX_VALUE};
-    private static final int[] NOT_USERS = {-1, 2, 8, Integer.MIN_VALUE, Integer.MAX_VALUE};
+    private static final int[] NOT_USERS = {-1, 2, 7, 8, Integer.MIN_VALUE, Integer.MAX_VALUE};
 
     public static void main(String[] args) {
         words();

@@ -4,6 +4,7 @@ public final class TapeTest {
 
     public static void main(String[] args) {
         newObject();
+        callsAheadOfOpenLeaveNothing();
         feedTellsTheLength();
         bytesComeHighestFirst();
         tapeIsFullAt8000();
@@ -36,6 +37,32 @@ public final class TapeTest {
         CHECK.due("letter ahead of open", m.letter(0, 0), -1);
         CHECK.due("waiting ahead of open", m.waiting(0, 0), -1);
         CHECK.due("queued ahead of open", m.queued(0, 0), -1);
+    }
+
+    /** The USERS' rows are there ahead of open(), so a call could come at them too early. */
+    private static void callsAheadOfOpenLeaveNothing() {
+        LineMonitor m = new LineMonitor();
+        Line.type(m, "HLT");
+        for (int u = -1; u <= 8; u++) {
+            CHECK.due("assemble(" + u + ") ahead of open", m.assemble(u), -1);
+            CHECK.due("poke(" + u + ") ahead of open", m.poke(u, 0, 1), -1);
+            CHECK.due("store(" + u + ") ahead of open", m.store(u, 0, 0, 1), -1);
+            CHECK.due("switches(" + u + ") ahead of open", m.switches(u, 1), -1);
+            CHECK.due("start(" + u + ") ahead of open", m.start(u, 0), -1);
+            CHECK.due("key(" + u + ") ahead of open", m.key(u, 65), -1);
+            CHECK.due("about(" + u + ", 3) ahead of open", m.about(u, 3), -1);
+        }
+        CHECK.due("run(1000) ahead of open", m.run(1000), -1);
+        CHECK.due("a bad open", m.open(8, 7, 64, 1001), -1);
+        CHECK.due("house(0) behind a bad open", m.house(0), -1);
+        CHECK.due("peek behind a bad open", m.peek(0, 0), -1);
+        CHECK.due("the tape behind all these", m.end(3), 3);
+        CHECK.due("open behind all these", m.open(8, 7, 64, 1000), 1);
+        CHECK.due("digest behind all these", m.digest(), Line.opened(8, 7, 64, 1000).digest());
+        Line.pokeAll(m, 0, 0, 07404, 07402);
+        m.start(0, 0);
+        m.run(2);
+        CHECK.due("SWITCHES behind all these", m.about(0, 1), 0);
     }
 
     private static void feedTellsTheLength() {
