@@ -1,6 +1,7 @@
 /** Promises 5 and 6 and Terms 3: TEXTS, their WORDS and their FAULTS. */
 public final class AssemblerTest {
     private static final Check CHECK = new Check();
+    private static final Texts TEXTS = new Texts(CHECK);
 
     public static void main(String[] args) {
         lines();
@@ -24,208 +25,179 @@ public final class AssemblerTest {
         CHECK.finish();
     }
 
-    /** The TEXT's WORDS from 0200 on are these, and no more. */
-    private static void words(String text, int... due) {
-        LineMonitor m = Line.single();
-        String call = "'" + text.replace("\n", "\\n").replace("\t", "\\t") + "'";
-        CHECK.due("WORDS of " + call, Line.assemble(m, 0, text), due.length);
-        CHECK.due("FAULT of " + call, m.fault(0), 0);
-        CHECK.due("LINE of " + call, m.fault(1), 0);
-        for (int i = 0; i < due.length; i++) {
-            CHECK.due("WORD " + i + " of " + call, m.peek(0, 0200 + i), due[i]);
-        }
-    }
-
-    /** The TEXT's WORDS are how many, and the WORD at a is w. */
-    private static void wordAt(String text, int howMany, int a, int w) {
-        LineMonitor m = Line.single();
-        CHECK.due("WORDS of '" + text + "'", Line.assemble(m, 0, text), howMany);
-        CHECK.due("WORD " + Integer.toOctalString(a) + " of '" + text + "'", m.peek(0, a), w);
-    }
-
-    private static void faulty(String text, int fault, int line) {
-        LineMonitor m = Line.single();
-        String shown = text.length() > 60 ? text.substring(0, 60) + ".." : text;
-        String call = "'" + shown.replace("\n", "\\n").replace("\t", "\\t") + "'";
-        CHECK.due("assemble of " + call, Line.assemble(m, 0, text), -2);
-        CHECK.due("FAULT of " + call, m.fault(0), fault);
-        CHECK.due("LINE of " + call, m.fault(1), line);
-        CHECK.due("fault(2) of " + call, m.fault(2), -1);
-    }
-
     private static void lines() {
-        words("");
-        words("\n");
-        words("\n\n;;\n ; \n");
-        words("1", 1);
-        words("1\n", 1);
-        words("1;2\n3", 1, 2, 3);
-        words("1/2;3\n4", 1, 4);
-        words("/ all 999 of it ( ; A,A,\n4/", 4);
-        words("1 / x / y\n", 1);
-        words("1;/\n;2", 1, 2);
-        faulty("1\r\n", 1, 1);
-        faulty("\n\n1\n9", 1, 4);
-        faulty("/9\n/9\n;;9;1/\n", 1, 3);
-        faulty("\0", 1, 1);
-        faulty("\u00e9", 1, 1);
-        faulty("cla", 1, 1);
+        TEXTS.words("");
+        TEXTS.words("\n");
+        TEXTS.words("\n\n;;\n ; \n");
+        TEXTS.words("1", 1);
+        TEXTS.words("1\n", 1);
+        TEXTS.words("1;2\n3", 1, 2, 3);
+        TEXTS.words("1/2;3\n4", 1, 4);
+        TEXTS.words("/ all 999 of it ( ; A,A,\n4/", 4);
+        TEXTS.words("1 / x / y\n", 1);
+        TEXTS.words("1;/\n;2", 1, 2);
+        TEXTS.faulty("1\r\n", 1, 1);
+        TEXTS.faulty("\n\n1\n9", 1, 4);
+        TEXTS.faulty("/9\n/9\n;;9;1/\n", 1, 3);
+        TEXTS.faulty("\0", 1, 1);
+        TEXTS.faulty("\u00e9", 1, 1);
+        TEXTS.faulty("cla", 1, 1);
     }
 
     private static void blanks() {
-        words(" \t 1 \t;\t2 ", 1, 2);
-        words("A,B,\tC, ;5", 5);
-        words(" A, \t B, 5", 5);
-        words("* 200; 5", 5);
-        words("*\t200 ; 5", 5);
-        words("A= 5; A", 5);
-        words("A=\t5 ; A", 5);
-        words("TAD  5", 01005);
-        words("TAD\tI\t5", 01405);
-        words("TAD.", 01200);
-        words("TAD-7773", 01005);
-        words("1 2\t 4", 7);
-        faulty("A , 5", 1, 1);
-        faulty("A =5", 1, 1);
-        faulty("A+ 5; A=1", 1, 1);
-        faulty("A +5; A=1", 1, 1);
-        faulty("- 5", 1, 1);
-        faulty("5 + 5", 1, 1);
-        wordAt("TAD ( 5 ) ", 2, 0377, 5);
-        wordAt("TAD(5", 2, 0377, 5);
-        wordAt("TAD I(5)", 2, 0200, 01777);
-        wordAt("TAD (5 )", 2, 0377, 5);
+        TEXTS.words(" \t 1 \t;\t2 ", 1, 2);
+        TEXTS.words("A,B,\tC, ;5", 5);
+        TEXTS.words(" A, \t B, 5", 5);
+        TEXTS.words("* 200; 5", 5);
+        TEXTS.words("*\t200 ; 5", 5);
+        TEXTS.words("A= 5; A", 5);
+        TEXTS.words("A=\t5 ; A", 5);
+        TEXTS.words("TAD  5", 01005);
+        TEXTS.words("TAD\tI\t5", 01405);
+        TEXTS.words("TAD.", 01200);
+        TEXTS.words("TAD-7773", 01005);
+        TEXTS.words("1 2\t 4", 7);
+        TEXTS.faulty("A , 5", 1, 1);
+        TEXTS.faulty("A =5", 1, 1);
+        TEXTS.faulty("A+ 5; A=1", 1, 1);
+        TEXTS.faulty("A +5; A=1", 1, 1);
+        TEXTS.faulty("- 5", 1, 1);
+        TEXTS.faulty("5 + 5", 1, 1);
+        TEXTS.wordAt("TAD ( 5 ) ", 2, 0377, 5);
+        TEXTS.wordAt("TAD(5", 2, 0377, 5);
+        TEXTS.wordAt("TAD I(5)", 2, 0200, 01777);
+        TEXTS.wordAt("TAD (5 )", 2, 0377, 5);
     }
 
     private static void names() {
-        words("ABCDEF=7; ABCDEF", 7);
-        words("A12345=7; A12345", 7);
-        words("Z9=7; Z9", 7);
-        words("A=1; AB=2; B=3; BA=4; A; AB; B; BA", 1, 2, 3, 4);
-        words("A=1;B=A;C=B+A; C", 2);
-        words("TADX=5; TADX", 5);
-        words("TAD1=5; TAD1", 5);
-        words("IX=5; TAD IX", 01005);
-        words("I1=5; TAD I1", 01005);
-        faulty("ABCDEFG=7", 1, 1);
-        faulty("ABCDEFG, 7", 1, 1);
-        faulty("TAD ABCDEFG", 1, 1);
-        faulty("1A, 7", 1, 1);
-        faulty("1A", 1, 1);
-        faulty("a, 7", 1, 1);
-        faulty("A_, 7", 1, 1);
+        TEXTS.words("ABCDEF=7; ABCDEF", 7);
+        TEXTS.words("A12345=7; A12345", 7);
+        TEXTS.words("Z9=7; Z9", 7);
+        TEXTS.words("A=1; AB=2; B=3; BA=4; A; AB; B; BA", 1, 2, 3, 4);
+        TEXTS.words("A=1;B=A;C=B+A; C", 2);
+        TEXTS.words("TADX=5; TADX", 5);
+        TEXTS.words("TAD1=5; TAD1", 5);
+        TEXTS.words("IX=5; TAD IX", 01005);
+        TEXTS.words("I1=5; TAD I1", 01005);
+        TEXTS.faulty("ABCDEFG=7", 1, 1);
+        TEXTS.faulty("ABCDEFG, 7", 1, 1);
+        TEXTS.faulty("TAD ABCDEFG", 1, 1);
+        TEXTS.faulty("1A, 7", 1, 1);
+        TEXTS.faulty("1A", 1, 1);
+        TEXTS.faulty("a, 7", 1, 1);
+        TEXTS.faulty("A_, 7", 1, 1);
     }
 
     private static void expressions() {
-        words("0;7;77;777;7777;0007", 0, 7, 077, 0777, 07777, 7);
-        words("-1;-0;-7777", 07777, 0, 1);
-        words("1+2;1-2;-1-2;-1+2;7777+1", 3, 07777, 07775, 1, 0);
-        words("1+2-3+4-5", 07777);
-        words(".;.;.+1;-.;.-.", 0200, 0201, 0203, 07575, 0);
-        words("A, .-A; .-A; B, A-B; 5", 0, 1, 07776, 5);
-        words("B;B, 1", 0201, 1);
-        words("CLA+1; CLA-CLA", 07201, 0);
-        words("1 2 4 -10", 07777);
-        words("CLA -1", 07777);
-        words("CLA CLL CML RTL", 07326);
-        words(". 1", 0201);
-        faulty("12345", 1, 1);
-        faulty("8", 1, 1);
-        faulty("18", 1, 1);
-        faulty("1+", 1, 1);
-        faulty("+1", 1, 1);
-        faulty("1++1", 1, 1);
-        faulty("1+-1", 1, 1);
-        faulty("--1", 1, 1);
-        faulty("-", 1, 1);
-        faulty("1.", 1, 1);
-        faulty(".1", 1, 1);
-        faulty("..", 1, 1);
-        faulty("A.", 1, 1);
-        faulty(".A", 1, 1);
-        faulty("1(2", 1, 1);
-        faulty("(2", 1, 1);
-        faulty("1)", 1, 1);
-        faulty("1,", 1, 1);
-        faulty("=1", 1, 1);
-        faulty(",1", 1, 1);
+        TEXTS.words("0;7;77;777;7777;0007", 0, 7, 077, 0777, 07777, 7);
+        TEXTS.words("-1;-0;-7777", 07777, 0, 1);
+        TEXTS.words("1+2;1-2;-1-2;-1+2;7777+1", 3, 07777, 07775, 1, 0);
+        TEXTS.words("1+2-3+4-5", 07777);
+        TEXTS.words(".;.;.+1;-.;.-.", 0200, 0201, 0203, 07575, 0);
+        TEXTS.words("A, .-A; .-A; B, A-B; 5", 0, 1, 07776, 5);
+        TEXTS.words("B;B, 1", 0201, 1);
+        TEXTS.words("CLA+1; CLA-CLA", 07201, 0);
+        TEXTS.words("1 2 4 -10", 07777);
+        TEXTS.words("CLA -1", 07777);
+        TEXTS.words("CLA CLL CML RTL", 07326);
+        TEXTS.words(". 1", 0201);
+        TEXTS.faulty("12345", 1, 1);
+        TEXTS.faulty("8", 1, 1);
+        TEXTS.faulty("18", 1, 1);
+        TEXTS.faulty("1+", 1, 1);
+        TEXTS.faulty("+1", 1, 1);
+        TEXTS.faulty("1++1", 1, 1);
+        TEXTS.faulty("1+-1", 1, 1);
+        TEXTS.faulty("--1", 1, 1);
+        TEXTS.faulty("-", 1, 1);
+        TEXTS.faulty("1.", 1, 1);
+        TEXTS.faulty(".1", 1, 1);
+        TEXTS.faulty("..", 1, 1);
+        TEXTS.faulty("A.", 1, 1);
+        TEXTS.faulty(".A", 1, 1);
+        TEXTS.faulty("1(2", 1, 1);
+        TEXTS.faulty("(2", 1, 1);
+        TEXTS.faulty("1)", 1, 1);
+        TEXTS.faulty("1,", 1, 1);
+        TEXTS.faulty("=1", 1, 1);
+        TEXTS.faulty(",1", 1, 1);
     }
 
     private static void knownNames() {
-        words("CLA;CLL;CMA;CML;RAR;RAL;RTR;RTL;IAC;NOP", 07200, 07100, 07040, 07020, 07010, 07004,
+        TEXTS.words("CLA;CLL;CMA;CML;RAR;RAL;RTR;RTL;IAC;NOP", 07200, 07100, 07040, 07020, 07010, 07004,
                 07012, 07006, 07001, 07000);
-        words("SMA;SZA;SPA;SNA;SNL;SZL;SKP;OSR;HLT;CIA", 07500, 07440, 07510, 07450, 07420, 07430,
+        TEXTS.words("SMA;SZA;SPA;SNA;SNL;SZL;SKP;OSR;HLT;CIA", 07500, 07440, 07510, 07450, 07420, 07430,
                 07410, 07404, 07402, 07041);
-        words("KSF;KRB;TSF;TLS;SLP;RDB;WRB;WHO", 06031, 06036, 06041, 06046, 06051, 06052, 06053,
+        TEXTS.words("KSF;KRB;TSF;TLS;SLP;RDB;WRB;WHO", 06031, 06036, 06041, 06046, 06051, 06052, 06053,
                 06054);
-        words("AND 1;TAD 1;ISZ 1;DCA 1;JMS 1;JMP 1", 1, 01001, 02001, 03001, 04001, 05001);
+        TEXTS.words("AND 1;TAD 1;ISZ 1;DCA 1;JMS 1;JMP 1", 1, 01001, 02001, 03001, 04001, 05001);
     }
 
     private static void origins() {
-        wordAt("*300; 5", 1, 0300, 5);
-        wordAt("*.+100; 5", 1, 0300, 5);
-        wordAt("*-1; 5; 6", 2, 07777, 5);
-        wordAt("*-1; 5; 6", 2, 0, 6);
-        wordAt("*-1; 5; A, A+3", 2, 0, 3);
-        wordAt("A, *300; A", 1, 0300, 0200);
-        wordAt("A=300; *A; 5", 1, 0300, 5);
-        wordAt("A, *A+100; 5", 1, 0300, 5);
-        wordAt("A,B, C=A+B; C", 1, 0200, 0400);
-        wordAt("*300; 5; *200; 6", 2, 0200, 6);
-        faulty("*1 2", 1, 1);
-        faulty("*", 1, 1);
-        faulty("**1", 1, 1);
-        faulty("A=", 1, 1);
-        faulty("A=1 2", 1, 1);
-        faulty("A=B=1", 1, 1);
-        faulty("A=1 B=2", 1, 1);
+        TEXTS.wordAt("*300; 5", 1, 0300, 5);
+        TEXTS.wordAt("*.+100; 5", 1, 0300, 5);
+        TEXTS.wordAt("*-1; 5; 6", 2, 07777, 5);
+        TEXTS.wordAt("*-1; 5; 6", 2, 0, 6);
+        TEXTS.wordAt("*-1; 5; A, A+3", 2, 0, 3);
+        TEXTS.wordAt("A, *300; A", 1, 0300, 0200);
+        TEXTS.wordAt("A=300; *A; 5", 1, 0300, 5);
+        TEXTS.wordAt("A, *A+100; 5", 1, 0300, 5);
+        TEXTS.wordAt("A,B, C=A+B; C", 1, 0200, 0400);
+        TEXTS.wordAt("*300; 5; *200; 6", 2, 0200, 6);
+        TEXTS.faulty("*1 2", 1, 1);
+        TEXTS.faulty("*", 1, 1);
+        TEXTS.faulty("**1", 1, 1);
+        TEXTS.faulty("A=", 1, 1);
+        TEXTS.faulty("A=1 2", 1, 1);
+        TEXTS.faulty("A=B=1", 1, 1);
+        TEXTS.faulty("A=1 B=2", 1, 1);
     }
 
     private static void memory() {
-        words("TAD 0; TAD 177; TAD 200; TAD 377", 01000, 01177, 01200, 01377);
-        wordAt("*7600; JMP 7777", 1, 07600, 05377);
-        wordAt("*7777; JMP .", 1, 07777, 05377);
-        wordAt("*0; JMP 0; JMP 177", 2, 1, 05177);
-        faulty("TAD 400", 4, 1);
-        faulty("1\nTAD 7777", 4, 2);
-        faulty("*0; TAD 200", 4, 1);
-        faulty("*377; TAD .; TAD .-1", 4, 1);
-        faulty("TAD", 1, 1);
-        faulty("TAD;", 1, 1);
-        faulty("TAD 1 2", 1, 1);
-        faulty("TAD +1", 1, 1);
-        faulty("TAD+1", 1, 1);
-        faulty("TAD )", 1, 1);
-        faulty("TAD 1)", 1, 1);
-        faulty("TAD *1", 1, 1);
-        faulty("CLA; CLA TAD 1", 2, 1);
+        TEXTS.words("TAD 0; TAD 177; TAD 200; TAD 377", 01000, 01177, 01200, 01377);
+        TEXTS.wordAt("*7600; JMP 7777", 1, 07600, 05377);
+        TEXTS.wordAt("*7777; JMP .", 1, 07777, 05377);
+        TEXTS.wordAt("*0; JMP 0; JMP 177", 2, 1, 05177);
+        TEXTS.faulty("TAD 400", 4, 1);
+        TEXTS.faulty("1\nTAD 7777", 4, 2);
+        TEXTS.faulty("*0; TAD 200", 4, 1);
+        TEXTS.faulty("*377; TAD .; TAD .-1", 4, 1);
+        TEXTS.faulty("TAD", 1, 1);
+        TEXTS.faulty("TAD;", 1, 1);
+        TEXTS.faulty("TAD 1 2", 1, 1);
+        TEXTS.faulty("TAD +1", 1, 1);
+        TEXTS.faulty("TAD+1", 1, 1);
+        TEXTS.faulty("TAD )", 1, 1);
+        TEXTS.faulty("TAD 1)", 1, 1);
+        TEXTS.faulty("TAD *1", 1, 1);
+        TEXTS.faulty("CLA; CLA TAD 1", 2, 1);
     }
 
     private static void indirect() {
-        words("TAD I 5; AND I 5; JMP I 200", 01405, 0405, 05600);
-        words("TAD I .", 01600);
-        words("TAD I-7773", 01405);
-        words("TAD I  -7773", 01405);
-        words("A=5; TAD I A", 01405);
-        faulty("TAD I", 2, 1);
-        faulty("TAD I+1", 2, 1);
-        faulty("TAD I /5", 2, 1);
-        faulty("TAD I +1", 1, 1);
-        faulty("TAD I)", 1, 1);
-        faulty("TAD I,", 1, 1);
-        faulty("TAD I=5", 1, 1);
-        faulty("TAD I I", 2, 1);
-        faulty("TAD I I I", 1, 1);
-        faulty("TAD I 5 6", 1, 1);
-        faulty("I 5", 2, 1);
-        faulty("TAD 5+I", 2, 1);
-        faulty("TAD I 8", 1, 1);
-        faulty("CLA I 5", 2, 1);
+        TEXTS.words("TAD I 5; AND I 5; JMP I 200", 01405, 0405, 05600);
+        TEXTS.words("TAD I .", 01600);
+        TEXTS.words("TAD I-7773", 01405);
+        TEXTS.words("TAD I  -7773", 01405);
+        TEXTS.words("A=5; TAD I A", 01405);
+        TEXTS.faulty("TAD I", 2, 1);
+        TEXTS.faulty("TAD I+1", 2, 1);
+        TEXTS.faulty("TAD I /5", 2, 1);
+        TEXTS.faulty("TAD I +1", 1, 1);
+        TEXTS.faulty("TAD I)", 1, 1);
+        TEXTS.faulty("TAD I,", 1, 1);
+        TEXTS.faulty("TAD I=5", 1, 1);
+        TEXTS.faulty("TAD I I", 2, 1);
+        TEXTS.faulty("TAD I I I", 1, 1);
+        TEXTS.faulty("TAD I 5 6", 1, 1);
+        TEXTS.faulty("I 5", 2, 1);
+        TEXTS.faulty("TAD 5+I", 2, 1);
+        TEXTS.faulty("TAD I 8", 1, 1);
+        TEXTS.faulty("CLA I 5", 2, 1);
     }
 
     private static void literals() {
         String text = "TAD (5; TAD (6); TAD (5; TAD (2+3; TAD I (.; *400; TAD (5; *205; TAD (6; TAD (-1";
-        LineMonitor m = Line.single();
+        Monitor m = Line.single();
         CHECK.due("WORDS with LITERALS", Line.assemble(m, 0, text), 8 + 4 + 1);
         int[] due = {01377, 01376, 01377, 01377, 01775, 01376, 01374};
         for (int i = 0; i < due.length; i++) {
@@ -237,22 +209,22 @@ public final class AssemblerTest {
         }
         CHECK.due("LITERAL of the next PAGE", m.peek(0, 0577), 5);
         CHECK.due("WORD of the next PAGE", m.peek(0, 0400), 01377);
-        wordAt("*0; TAD (5", 2, 0, 01177);
-        wordAt("*0; TAD (5", 2, 0177, 5);
-        wordAt("*7600; TAD (5", 2, 07777, 5);
-        wordAt("TAD (B; B, 7", 3, 0377, 0201);
+        TEXTS.wordAt("*0; TAD (5", 2, 0, 01177);
+        TEXTS.wordAt("*0; TAD (5", 2, 0177, 5);
+        TEXTS.wordAt("*7600; TAD (5", 2, 07777, 5);
+        TEXTS.wordAt("TAD (B; B, 7", 3, 0377, 0201);
         // A WORD of a like value is no LITERAL.
-        faulty("*377; 5; *200; TAD (5", 5, 1);
-        wordAt("*376; 5; *200; TAD (5", 3, 0377, 5);
-        faulty("TAD (5 6", 1, 1);
-        faulty("TAD (", 1, 1);
-        faulty("TAD ()", 1, 1);
-        faulty("TAD ((5", 1, 1);
-        faulty("TAD (5))", 1, 1);
-        faulty("TAD (I 5", 1, 1);
-        faulty("TAD (I", 2, 1);
-        faulty("*377; TAD (5", 5, 1);
-        faulty("TAD (5\n*377\n6", 5, 3);
+        TEXTS.faulty("*377; 5; *200; TAD (5", 5, 1);
+        TEXTS.wordAt("*376; 5; *200; TAD (5", 3, 0377, 5);
+        TEXTS.faulty("TAD (5 6", 1, 1);
+        TEXTS.faulty("TAD (", 1, 1);
+        TEXTS.faulty("TAD ()", 1, 1);
+        TEXTS.faulty("TAD ((5", 1, 1);
+        TEXTS.faulty("TAD (5))", 1, 1);
+        TEXTS.faulty("TAD (I 5", 1, 1);
+        TEXTS.faulty("TAD (I", 2, 1);
+        TEXTS.faulty("*377; TAD (5", 5, 1);
+        TEXTS.faulty("TAD (5\n*377\n6", 5, 3);
         fillAPage();
     }
 
@@ -262,80 +234,80 @@ public final class AssemblerTest {
         for (int i = 0; i < 64; i++) {
             text.append("TAD (").append(Integer.toOctalString(i)).append('\n');
         }
-        wordAt(text.toString(), 128, 0300, 63);
-        wordAt(text.toString(), 128, 0277, 01300);
-        faulty(text + "*300; TAD (100", 5, 65);
-        faulty(text + "*300; TAD (77", 5, 65);
-        wordAt(text + "*400; TAD (0", 130, 0577, 0);
+        TEXTS.wordAt(text.toString(), 128, 0300, 63);
+        TEXTS.wordAt(text.toString(), 128, 0277, 01300);
+        TEXTS.faulty(text + "*300; TAD (100", 5, 65);
+        TEXTS.faulty(text + "*300; TAD (77", 5, 65);
+        TEXTS.wordAt(text + "*400; TAD (0", 130, 0577, 0);
     }
 
     private static void badStatements() {
-        faulty("A", 2, 1);
-        faulty("A, A,", 3, 1);
-        faulty("A,,", 1, 1);
-        faulty("A:", 1, 1);
-        faulty("1;2;*;3", 1, 1);
-        faulty("1 ! 2", 1, 1);
-        faulty("A, *200, 5", 1, 1);
-        faulty("*200 A, 5", 1, 1);
-        faulty("5 A, 6", 1, 1);
-        faulty("B=5, 6", 1, 1);
+        TEXTS.faulty("A", 2, 1);
+        TEXTS.faulty("A, A,", 3, 1);
+        TEXTS.faulty("A,,", 1, 1);
+        TEXTS.faulty("A:", 1, 1);
+        TEXTS.faulty("1;2;*;3", 1, 1);
+        TEXTS.faulty("1 ! 2", 1, 1);
+        TEXTS.faulty("A, *200, 5", 1, 1);
+        TEXTS.faulty("*200 A, 5", 1, 1);
+        TEXTS.faulty("5 A, 6", 1, 1);
+        TEXTS.faulty("B=5, 6", 1, 1);
     }
 
     private static void faultsOfPassOne() {
-        faulty("*A; A=5", 2, 1);
-        faulty("B=A; A=5", 2, 1);
-        faulty("B=A\nA, 5", 2, 1);
-        faulty("A=A", 2, 1);
-        faulty("\n*TAD", 2, 2);
-        faulty("B=I", 2, 1);
-        faulty("A=1\nA=1", 3, 2);
-        faulty("A=1\nA, 1", 3, 2);
-        faulty("A, 1\nA=1", 3, 2);
-        faulty("A, A=1", 3, 1);
-        faulty("CLA=7200", 3, 1);
-        faulty("WHO, 5", 3, 1);
-        faulty("I=5", 3, 1);
-        faulty("I, 5", 3, 1);
+        TEXTS.faulty("*A; A=5", 2, 1);
+        TEXTS.faulty("B=A; A=5", 2, 1);
+        TEXTS.faulty("B=A\nA, 5", 2, 1);
+        TEXTS.faulty("A=A", 2, 1);
+        TEXTS.faulty("\n*TAD", 2, 2);
+        TEXTS.faulty("B=I", 2, 1);
+        TEXTS.faulty("A=1\nA=1", 3, 2);
+        TEXTS.faulty("A=1\nA, 1", 3, 2);
+        TEXTS.faulty("A, 1\nA=1", 3, 2);
+        TEXTS.faulty("A, A=1", 3, 1);
+        TEXTS.faulty("CLA=7200", 3, 1);
+        TEXTS.faulty("WHO, 5", 3, 1);
+        TEXTS.faulty("I=5", 3, 1);
+        TEXTS.faulty("I, 5", 3, 1);
     }
 
     private static void orderOfFaults() {
         // the first of PASS 1, whatever PASS 2 would find ahead of it
-        faulty("TAD 400\nA=1\nA=2", 3, 3);
-        faulty("B\n9", 1, 2);
+        TEXTS.faulty("TAD 400\nA=1\nA=2", 3, 3);
+        TEXTS.faulty("B\n9", 1, 2);
         // STATEMENT by STATEMENT
-        faulty("A=1;A=2;9", 3, 1);
-        faulty("9;A=1;A=2", 1, 1);
+        TEXTS.faulty("A=1;A=2;9", 3, 1);
+        TEXTS.faulty("9;A=1;A=2", 1, 1);
         // 1 ahead of all else in a STATEMENT, then LABELS in order, then what follows
-        faulty("A=1;A, 9", 1, 1);
-        faulty("A=1;A, *B", 3, 1);
-        faulty("A=1;A=B", 2, 1);
-        faulty("A=B;9", 2, 1);
+        TEXTS.faulty("A=1;A, 9", 1, 1);
+        TEXTS.faulty("A=1;A, *B", 3, 1);
+        TEXTS.faulty("A=1;A=B", 2, 1);
+        TEXTS.faulty("A=B;9", 2, 1);
         // of PASS 2: value, address, place
-        faulty("*200; 1; *200; TAD X", 2, 1);
-        faulty("*200; 1; *200; TAD 400", 4, 1);
-        faulty("TAD 400; X", 4, 1);
-        faulty("X; TAD 400", 2, 1);
+        TEXTS.faulty("*200; 1; *200; TAD X", 2, 1);
+        TEXTS.faulty("*200; 1; *200; TAD 400", 4, 1);
+        TEXTS.faulty("TAD 400; X", 4, 1);
+        TEXTS.faulty("X; TAD 400", 2, 1);
     }
 
     /** A MEMORY's word is a NAME that was told already, if it is told by a LABEL or a =. */
     private static void memoryWordsAsNames() {
-        faulty("TAD, 5", 3, 1);
-        faulty("TAD=5", 3, 1);
-        faulty("TAD TAD", 2, 1);
-        faulty("5 TAD", 2, 1);
-        faulty("-TAD", 2, 1);
+        TEXTS.faulty("TAD, 5", 3, 1);
+        TEXTS.faulty("TAD=5", 3, 1);
+        TEXTS.faulty("TAD TAD", 2, 1);
+        TEXTS.faulty("5 TAD", 2, 1);
+        TEXTS.faulty("-TAD", 2, 1);
     }
 
     private static void faultsOfPassTwo() {
-        faulty("1\nX", 2, 2);
-        faulty("1\nTAD X", 2, 2);
-        faulty("1\nTAD (X", 2, 2);
-        faulty("1 X", 2, 1);
-        faulty("1\n*200\n2", 5, 3);
-        faulty("*7777; 1; *0; 1; *7777; 1; 2", 5, 1);
-        words("1;2;*200;*202;3", 1, 2, 3);
-        words("1;*200;A,;*201;A", 1, 0200);
+        TEXTS.faulty("1\nX", 2, 2);
+        TEXTS.faulty("1\nTAD X", 2, 2);
+        TEXTS.faulty("1\nTAD (X", 2, 2);
+        TEXTS.faulty("1 X", 2, 1);
+        TEXTS.faulty("1\n*200\n2", 5, 3);
+        TEXTS.faulty("*7777; 1; *0; 1; *7777; 1; 2", 5, 1);
+        TEXTS.words("1;2;*200;*202;3", 1, 2, 3);
+        TEXTS.words("1;*200;A,;*201;A", 1, 0200);
     }
 
     private static void tooManyNames() {
@@ -343,22 +315,22 @@ public final class AssemblerTest {
         for (int i = 0; i < 200; i++) {
             text.append('N').append(i).append(i % 2 == 0 ? ",\n" : "=1\n");
         }
-        words(text + "N198 N199", 0201);
-        faulty(text + "\nX,", 6, 202);
-        faulty(text + "X=5", 6, 201);
-        faulty(text + "X=Y", 2, 201);
-        faulty(text + "N7=5", 3, 201);
-        faulty(text + "N7, X,", 3, 201);
-        faulty(text + "X, N7,", 6, 201);
-        faulty(text + "X, 9", 1, 201);
-        LineMonitor m = Line.single();
+        TEXTS.words(text + "N198 N199", 0201);
+        TEXTS.faulty(text + "\nX,", 6, 202);
+        TEXTS.faulty(text + "X=5", 6, 201);
+        TEXTS.faulty(text + "X=Y", 2, 201);
+        TEXTS.faulty(text + "N7=5", 3, 201);
+        TEXTS.faulty(text + "N7, X,", 3, 201);
+        TEXTS.faulty(text + "X, N7,", 6, 201);
+        TEXTS.faulty(text + "X, 9", 1, 201);
+        Monitor m = Line.single();
         CHECK.due("a TEXT with 200 NAMES", Line.assemble(m, 0, text.toString()), 0);
         CHECK.due("the NAMES are gone behind it", Line.assemble(m, 0, "N0, X, 5"), 1);
         CHECK.due("all of them", Line.assemble(m, 0, "N1"), -2);
     }
 
     private static void faultStays() {
-        LineMonitor m = Line.single();
+        Monitor m = Line.single();
         Line.assemble(m, 0, "1\n9");
         CHECK.due("assemble(1)", Line.assemble(m, 1, "1"), -1);
         CHECK.due("FAULT of the latest that was not -1", m.fault(0), 1);
@@ -371,7 +343,7 @@ public final class AssemblerTest {
     }
 
     private static void nothingComesWithAFault() {
-        LineMonitor m = Line.single();
+        Monitor m = Line.single();
         Line.assemble(m, 0, "1;2;TAD (3");
         long before = m.digest();
         CHECK.due("a FAULT behind WORDS", Line.assemble(m, 0, "4;5;TAD (6;X"), -2);
@@ -382,7 +354,7 @@ public final class AssemblerTest {
     }
 
     private static void whereItComes() {
-        LineMonitor m = Line.opened(3, 1, 1, 4);
+        Monitor m = Line.opened(3, 1, 1, 4);
         m.poke(1, 0201, 7);
         m.poke(1, 0377, 8);
         CHECK.due("assemble(1)", Line.assemble(m, 1, "5;*202;6"), 2);

@@ -21,15 +21,15 @@ public final class HouseTest {
     }
 
     /** Each USER has JMP . at 0200. */
-    private static LineMonitor spinning(int users, int fields, int quantum, int beat) {
-        LineMonitor m = Line.opened(users, fields, quantum, beat);
+    private static Monitor spinning(int users, int fields, int quantum, int beat) {
+        Monitor m = Line.opened(users, fields, quantum, beat);
         for (int u = 0; u < users; u++) {
             m.poke(u, 0200, JMP_SELF);
         }
         return m;
     }
 
-    private static void startAll(LineMonitor m) {
+    private static void startAll(Monitor m) {
         for (int u = 0; u < m.house(0); u++) {
             m.start(u, 0200);
         }
@@ -41,7 +41,7 @@ public final class HouseTest {
             {1, 1, 65, 4}, {1, 1, 1, 3}, {1, 1, 1, 1001}, {Integer.MIN_VALUE, 1, 1, 4},
             {1, Integer.MAX_VALUE, 1, 4}, {1, 1, -1, 4}, {1, 1, 1, 0}
         };
-        LineMonitor m = new LineMonitor();
+        Monitor m = new Monitor();
         for (int[] b : bad) {
             CHECK.due("a bad open", m.open(b[0], b[1], b[2], b[3]), -1);
         }
@@ -61,11 +61,11 @@ public final class HouseTest {
         CHECK.due("about(7, 12)", m.about(7, 12), -1);
         CHECK.due("about(7, -1)", m.about(7, -1), -1);
         CHECK.due("row(0) at first", m.row(0), -1);
-        CHECK.due("open at the lower edge", new LineMonitor().open(1, 1, 1, 4), 1);
+        CHECK.due("open at the lower edge", new Monitor().open(1, 1, 1, 4), 1);
     }
 
     private static void startOnlyTheStopped() {
-        LineMonitor m = spinning(2, 1, 1, 1000);
+        Monitor m = spinning(2, 1, 1, 1000);
         CHECK.due("start at -1", m.start(0, -1), -1);
         CHECK.due("start at 4096", m.start(0, 4096), -1);
         CHECK.due("STATES behind bad starts", Line.states(m), "00");
@@ -89,7 +89,7 @@ public final class HouseTest {
     }
 
     private static void runCountsBusySteps() {
-        LineMonitor m = Line.opened(1, 1, 1, 4);
+        Monitor m = Line.opened(1, 1, 1, 4);
         CHECK.due("run(-1)", m.run(-1), -1);
         CHECK.due("run(1001)", m.run(1001), -1);
         CHECK.due("run(0)", m.run(0), 0);
@@ -106,7 +106,7 @@ public final class HouseTest {
     }
 
     private static void turnsByQuantum() {
-        LineMonitor m = spinning(3, 7, 2, 5);
+        Monitor m = spinning(3, 7, 2, 5);
         startAll(m);
         CHECK.due("TICKS to run", m.about(0, 10), 2);
         CHECK.due("TICKS to run of one that is READY", m.about(1, 10), 0);
@@ -133,7 +133,7 @@ public final class HouseTest {
     }
 
     private static void aloneInTheRow() {
-        LineMonitor m = spinning(1, 1, 1, 4);
+        Monitor m = spinning(1, 1, 1, 4);
         startAll(m);
         CHECK.due("run alone", m.run(100), 100);
         CHECK.due("who RUNS", m.house(6), 0);
@@ -150,7 +150,7 @@ public final class HouseTest {
     }
 
     private static void swaps() {
-        LineMonitor m = spinning(3, 2, 1, 4);
+        Monitor m = spinning(3, 2, 1, 4);
         CHECK.due("TURN at first", m.house(9), 1);
         startAll(m);
         CHECK.due("SWAPS behind the first start", m.house(8), 1);
@@ -178,7 +178,7 @@ public final class HouseTest {
         CHECK.due("TURN behind a second start", m.house(9), 2);
     }
 
-    private static String fieldsOf(LineMonitor m) {
+    private static String fieldsOf(Monitor m) {
         StringBuilder s = new StringBuilder();
         for (int u = 0; u < m.house(0); u++) {
             s.append(m.about(u, 8));
@@ -187,7 +187,7 @@ public final class HouseTest {
     }
 
     private static void swapsGoRound() {
-        LineMonitor m = spinning(2, 1, 1, 4);
+        Monitor m = spinning(2, 1, 1, 4);
         startAll(m);
         for (int i = 0; i < 16; i++) {
             m.run(1000);
@@ -200,7 +200,7 @@ public final class HouseTest {
     }
 
     private static void sleepers() {
-        LineMonitor m = Line.opened(1, 1, 3, 4);
+        Monitor m = Line.opened(1, 1, 3, 4);
         // IAC; SLP; IAC; SLP; HLT
         Line.pokeAll(m, 0, 0200, 07001, 06051, 07001, 06051, 07402);
         m.start(0, 0200);
@@ -233,7 +233,7 @@ public final class HouseTest {
     }
 
     private static void waitersForKeys() {
-        LineMonitor m = Line.opened(2, 1, 1, 4);
+        Monitor m = Line.opened(2, 1, 1, 4);
         Line.pokeAll(m, 0, 0200, 06036, 07402);
         m.poke(1, 0200, JMP_SELF);
         m.start(0, 0200);
@@ -258,7 +258,7 @@ public final class HouseTest {
     }
 
     private static void waitersForRoom() {
-        LineMonitor m = Line.opened(1, 1, 64, 100);
+        Monitor m = Line.opened(1, 1, 64, 100);
         // IAC; TLS; JMP .-2
         Line.pokeAll(m, 0, 0200, 07001, 06046, 05200);
         m.start(0, 0200);
@@ -278,7 +278,7 @@ public final class HouseTest {
     }
 
     private static void orderInTheRow() {
-        LineMonitor m = Line.opened(4, 1, 1, 4);
+        Monitor m = Line.opened(4, 1, 1, 4);
         // 3 falls asleep ahead of 1; one TICK wakes both, by numbers.
         for (int u = 1; u <= 3; u += 2) {
             Line.pokeAll(m, u, 0200, 07001, 06051, 07402);
@@ -308,7 +308,7 @@ public final class HouseTest {
     }
 
     private static void haltEndsTheTurn() {
-        LineMonitor m = spinning(2, 2, 1, 4);
+        Monitor m = spinning(2, 2, 1, 4);
         m.poke(0, 0200, 07402);
         startAll(m);
         m.run(1);
@@ -325,7 +325,7 @@ public final class HouseTest {
     }
 
     private static void whatIsNotAsTold() {
-        LineMonitor m = spinning(2, 1, 2, 8);
+        Monitor m = spinning(2, 1, 2, 8);
         startAll(m);
         m.run(11);
         long before = m.digest();

@@ -5,7 +5,7 @@ public final class LettersTest {
     public static void main(String[] args) {
         keysComeIn();
         lettersAreLost();
-        lostGoRound();
+        manyAreLost();
         inputIsARow();
         outputIsARow();
         paperKeepsTheLatest();
@@ -13,7 +13,7 @@ public final class LettersTest {
     }
 
     private static void keysComeIn() {
-        LineMonitor m = Line.opened(2, 1, 1, 4);
+        Monitor m = Line.opened(2, 1, 1, 4);
         CHECK.due("key 256", m.key(0, 256), -1);
         CHECK.due("key -1", m.key(0, -1), -1);
         CHECK.due("INPUT behind bad keys", m.about(0, 5), 0);
@@ -29,7 +29,7 @@ public final class LettersTest {
     }
 
     private static void lettersAreLost() {
-        LineMonitor m = Line.opened(1, 1, 1, 4);
+        Monitor m = Line.opened(1, 1, 1, 4);
         for (int i = 0; i < 16; i++) {
             CHECK.due("key " + i, m.key(0, i), 1);
         }
@@ -41,18 +41,22 @@ public final class LettersTest {
         CHECK.due("no 17th letter", m.waiting(0, 16), -1);
     }
 
-    private static void lostGoRound() {
-        LineMonitor m = Line.opened(1, 1, 1, 4);
-        for (int i = 0; i < 16 + 4095; i++) {
+    /** As many as 512 calls can lose: too few to go round. */
+    private static void manyAreLost() {
+        Monitor m = Line.opened(1, 1, 1, 4);
+        for (int i = 0; i < 16; i++) {
             m.key(0, 1);
         }
-        CHECK.due("letters lost", m.about(0, 7), 4095);
-        m.key(0, 1);
-        CHECK.due("letters lost modulo 4096", m.about(0, 7), 0);
+        int lost = 0;
+        while (m.callsLeft() > 1) {
+            lost += 1 - m.key(0, 2);
+        }
+        CHECK.due("letters lost, in call 512", m.about(0, 7), lost);
+        CHECK.due("they are 494", lost, 494);
     }
 
     private static void inputIsARow() {
-        LineMonitor m = Line.opened(1, 1, 1, 4);
+        Monitor m = Line.opened(1, 1, 1, 4);
         // KRB; JMP .-1
         Line.pokeAll(m, 0, 0200, 06036, 05200);
         m.start(0, 0200);
@@ -77,12 +81,12 @@ public final class LettersTest {
     }
 
     private static void outputIsARow() {
-        LineMonitor m = Line.opened(1, 1, 1, 4);
+        Monitor m = Line.opened(1, 1, 1, 4);
         // IAC; TLS; JMP .-2: two letters in six STEPS, three in two TICKS and so on
         Line.pokeAll(m, 0, 0200, 07001, 06046, 05200);
         m.start(0, 0200);
         CHECK.due("queued at first", m.queued(0, 0), -1);
-        for (int steps = 1; steps <= 96; steps++) {
+        for (int steps = 1; steps <= 80; steps++) {
             m.run(1);
             int sent = (steps + 1) / 3;
             int printed = steps / 4;
@@ -99,7 +103,7 @@ public final class LettersTest {
     }
 
     private static void paperKeepsTheLatest() {
-        LineMonitor m = Line.opened(1, 1, 1, 4);
+        Monitor m = Line.opened(1, 1, 1, 4);
         Line.pokeAll(m, 0, 0200, 07001, 06046, 05200);
         m.start(0, 0200);
         CHECK.due("letter 0 at first", m.letter(0, 0), -1);

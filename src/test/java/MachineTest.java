@@ -19,8 +19,8 @@ public final class MachineTest {
     }
 
     /** A machine that has done w at 0203, with AC and L as told, WORD 0101 and SWITCHES set. */
-    private static LineMonitor done(int ac, int link, int w, int word) {
-        LineMonitor m = Line.single();
+    private static Monitor done(int ac, int link, int w, int word) {
+        Monitor m = Line.single();
         Line.pokeAll(m, 0, 0200, 07300, 01100, link == 1 ? 07020 : 07000, w);
         Line.pokeAll(m, 0, 0100, ac, word);
         m.switches(0, 0525);
@@ -30,7 +30,7 @@ public final class MachineTest {
     }
 
     private static void after(int ac, int link, int w, int word, int... due) {
-        LineMonitor m = done(ac, link, w, word);
+        Monitor m = done(ac, link, w, word);
         String call = Integer.toOctalString(w) + " with AC " + Integer.toOctalString(ac)
                 + ", L " + link + ", WORD " + Integer.toOctalString(word);
         CHECK.due("PC behind " + call, m.about(0, 0), due[0]);
@@ -57,7 +57,7 @@ public final class MachineTest {
     }
 
     private static void addresses() {
-        LineMonitor m = Line.single();
+        Monitor m = Line.single();
         // Bit 0200 means the PAGE of the INSTRUCTION's own address, also on its last place.
         Line.pokeAll(m, 0, 03576, 01200, 01377, 01000, 01777);
         m.poke(0, 03400, 1);
@@ -77,7 +77,7 @@ public final class MachineTest {
     private static void autoIndex() {
         for (int a = 07; a <= 020; a++) {
             boolean is = a >= 010 && a <= 017;
-            LineMonitor m = Line.single();
+            Monitor m = Line.single();
             Line.pokeAll(m, 0, 0200, 01400 | a, 01000 | a);
             m.poke(0, a, 0500);
             Line.pokeAll(m, 0, 0500, 1, 2);
@@ -88,7 +88,7 @@ public final class MachineTest {
             m.run(1);
             CHECK.due("WORD behind TAD " + a, m.peek(0, a), is ? 0501 : 0500);
         }
-        LineMonitor m = Line.single();
+        Monitor m = Line.single();
         // On PAGE 0, bit 0200 leads to the same places.
         Line.pokeAll(m, 0, 0100, 01610, 05410);
         m.poke(0, 010, 07777);
@@ -109,7 +109,7 @@ public final class MachineTest {
     }
 
     private static void subroutines() {
-        LineMonitor m = Line.single();
+        Monitor m = Line.single();
         Line.pokeAll(m, 0, 0200, 04777, 07402);
         m.poke(0, 0377, 07777);
         Line.pokeAll(m, 0, 0, 05777);
@@ -194,7 +194,7 @@ public final class MachineTest {
         after(5, 1, 06041, 0, 0205, 5, 1);
         after(07525, 1, 06046, 0, 0204, 07525, 1);
         CHECK.due("TLS sends 8 bits", done(07525, 0, 06046, 0).queued(0, 0), 0125);
-        LineMonitor m = Line.single();
+        Monitor m = Line.single();
         // KSF; HLT; KRB; KSF; HLT
         Line.pokeAll(m, 0, 0200, 06031, 07402, 06036, 06031, 07402);
         m.key(0, 255);
@@ -222,7 +222,7 @@ public final class MachineTest {
     }
 
     private static void blocks() {
-        LineMonitor m = Line.single();
+        Monitor m = Line.single();
         // CLA IAC; WRB; 07701; IAC; RDB; 07700
         Line.pokeAll(m, 0, 0200, 07201, 06053, 07701, 07001, 06052, 07700, 07402);
         for (int i = 0; i < 128; i++) {
@@ -247,7 +247,7 @@ public final class MachineTest {
         int[] blocks = {31, 32, 4095};
         for (int b : blocks) {
             for (int w = 06052; w <= 06053; w++) {
-                LineMonitor x = Line.single();
+                Monitor x = Line.single();
                 Line.pokeAll(x, 0, 0200, 01100, w, 0500);
                 Line.pokeAll(x, 0, 0100, b);
                 x.poke(0, 0500, 7);
@@ -275,7 +275,7 @@ public final class MachineTest {
 
     private static void others() {
         after(5, 1, 06054, 0, 0204, 0, 1);
-        LineMonitor m = Line.opened(8, 1, 1, 4);
+        Monitor m = Line.opened(8, 1, 1, 4);
         m.poke(7, 0, 06054);
         m.start(7, 0);
         m.run(1);
@@ -290,7 +290,7 @@ public final class MachineTest {
     }
 
     private static void wrapping() {
-        LineMonitor m = Line.single();
+        Monitor m = Line.single();
         // JMP from the last WORD; ISZ there skips round
         Line.pokeAll(m, 0, 07777, 02010);
         m.poke(0, 010, 07777);

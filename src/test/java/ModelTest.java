@@ -3,8 +3,9 @@ import java.util.Random;
 /** All promises: runs of calls by chance (always the same ones), against the model's answers. */
 public final class ModelTest {
     private static final Check CHECK = new Check();
-    private static final int RUNS = 400;
-    private static final int CALLS = 400;
+    private static final int RUNS = 4000;
+    /** Calls that one turn of someCall(), and the look at a run's end, can make. */
+    private static final int FOR_A_TURN_AND_THE_END = 240;
     private static final String[] PARTS = {
         "A", "B", "C", "AB", "B1", "LOOP", "LONGER", "TOOLONG", "I", "I", "TAD", "TAD", "DCA", "JMP",
         "JMS", "AND", "ISZ", "TADX", "CLA", "CLL", "RTL", "HLT", "KRB", "TLS", "SLP", "WHO", "0", "7",
@@ -19,21 +20,22 @@ public final class ModelTest {
     };
 
     private static Random random;
-    private static LineMonitor real;
+    private static Monitor real;
     private static Model model;
 
     public static void main(String[] args) {
         for (int run = 0; run < RUNS && !CHECK.hasWrong(); run++) {
             random = new Random(run);
-            real = new LineMonitor();
+            real = new Monitor();
             model = new Model();
             if (chance(10)) {
                 someCall(run, 0);
             }
             open();
-            for (int call = 1; call < CALLS && !CHECK.hasWrong(); call++) {
+            for (int call = 1; real.callsLeft() > FOR_A_TURN_AND_THE_END && !CHECK.hasWrong(); call++) {
                 someCall(run, call);
             }
+            every("run " + run + ", at its end: ");
             CHECK.due("run " + run + ": digest", real.digest(), model.digest());
         }
         CHECK.finish();
@@ -100,7 +102,7 @@ public final class ModelTest {
             case 19: tape(at); break;
             default: look(at, u); break;
         }
-        every(at);
+        some(at);
     }
 
     private static void keys(String at, int u) {
@@ -133,12 +135,22 @@ public final class ModelTest {
         }
     }
 
+    private static void some(String at) {
+        int what = random.nextInt(13) - 1;
+        CHECK.due(at + "house(" + what + ")", real.house(what), model.house(what));
+        for (int i = 0; i < 3; i++) {
+            int u = user();
+            int which = random.nextInt(14) - 1;
+            CHECK.due(at + "about(" + u + ", " + which + ")", real.about(u, which), model.about(u, which));
+        }
+    }
+
     private static void every(String at) {
         for (int what = -1; what <= 11; what++) {
             CHECK.due(at + "house(" + what + ")", real.house(what), model.house(what));
         }
         for (int u = 0; u < model.house(0); u++) {
-            for (int what = 0; what <= 12; what++) {
+            for (int what = 0; what < 12; what++) {
                 CHECK.due(at + "about(" + u + ", " + what + ")", real.about(u, what), model.about(u, what));
             }
         }

@@ -13,7 +13,7 @@ public final class TapeTest {
     }
 
     private static void newObject() {
-        LineMonitor m = new LineMonitor();
+        Monitor m = new Monitor();
         CHECK.due("end(0) of a new object", m.end(0), 0);
         CHECK.due("end(1) of a new object", m.end(1), -1);
         CHECK.due("fault(0) of a new object", m.fault(0), 0);
@@ -41,7 +41,7 @@ public final class TapeTest {
 
     /** The USERS' rows are there ahead of open(), so a call could come at them too early. */
     private static void callsAheadOfOpenLeaveNothing() {
-        LineMonitor m = new LineMonitor();
+        Monitor m = new Monitor();
         Line.type(m, "HLT");
         for (int u = -1; u <= 8; u++) {
             CHECK.due("assemble(" + u + ") ahead of open", m.assemble(u), -1);
@@ -66,7 +66,7 @@ public final class TapeTest {
     }
 
     private static void feedTellsTheLength() {
-        LineMonitor m = new LineMonitor();
+        Monitor m = new Monitor();
         CHECK.due("first feed, ahead of open", m.feed(0, 0, 0, 0, 0), 20);
         CHECK.due("second feed", m.feed(-1, -1, -1, -1, -1), 40);
         m.open(1, 1, 1, 4);
@@ -74,7 +74,7 @@ public final class TapeTest {
     }
 
     private static void bytesComeHighestFirst() {
-        LineMonitor m = Line.single();
+        Monitor m = Line.single();
         // "1;2;3;4;5;6;7;10;11/" and nothing else
         m.feed(0x313B323B, 0x333B343B, 0x353B363B, 0x373B3130, 0x3B31312F);
         CHECK.due("assemble of twenty bytes", m.assemble(0), 9);
@@ -89,7 +89,7 @@ public final class TapeTest {
     }
 
     private static void tapeIsFullAt8000() {
-        LineMonitor m = new LineMonitor();
+        Monitor m = new Monitor();
         for (int i = 1; i <= 400; i++) {
             CHECK.due("feed " + i, m.feed(0, 0, 0, 0, 0), 20 * i);
         }
@@ -103,7 +103,7 @@ public final class TapeTest {
     }
 
     private static void endKeepsTheFirst() {
-        LineMonitor m = Line.single();
+        Monitor m = Line.single();
         m.feed(0x313B323B, 0x333B343B, 0x353B363B, 0x373B3130, 0x3B31310A);
         CHECK.due("end(21)", m.end(21), -1);
         CHECK.due("end(-1)", m.end(-1), -1);
