@@ -35,6 +35,7 @@ public final class HouseEdgesTest {
         runnerComesLast();
         firstOfTheRowRuns();
         onlyIfNoneRuns();
+        onlyIfTheRowHasAny();
         behindEachCall();
         inNoField();
         whoIsThereGoes();
@@ -471,6 +472,28 @@ public final class HouseEdgesTest {
         m.poke(1, 0, 5);
         CHECK.due("who RUNS behind calls", m.house(6), 0);
         CHECK.due("SWAPS", m.house(8), 1);
+    }
+
+    /** Behind a TICK that had all eight in the ROW, all stop: who was in it is not taken for one that is. */
+    private static void onlyIfTheRowHasAny() {
+        CHECK.says("if none RUNS, and the ROW has any, the first one leaves it and RUNS;");
+        Monitor m = looping(8, 7, 1, 4);
+        m.run(40);
+        for (int u = 0; u < 8; u++) {
+            m.poke(u, 0200, HLT);
+        }
+        CHECK.due("run of eight that stop", m.run(20), 8);
+        CHECK.due("STATES then", Line.states(m), "00000000");
+        CHECK.due("who RUNS then", m.house(6), -1);
+        CHECK.due("ROW then", m.house(7), 0);
+        CHECK.due("row(0) then", m.row(0), -1);
+        m.key(3, 1);
+        m.poke(3, 0200, JMP_FIRST);
+        CHECK.due("who RUNS behind calls that make none READY", m.house(6), -1);
+        CHECK.due("run then", m.run(5), 0);
+        m.start(3, 0200);
+        CHECK.due("who RUNS behind a start", m.house(6), 3);
+        CHECK.due("ROW behind a start", m.house(7), 0);
     }
 
     private static void behindEachCall() {

@@ -20,6 +20,11 @@ public final class LanguageTest {
             "int start(int,int)", "int key(int,int)", "int run(int)", "int about(int,int)",
             "int letter(int,int)", "int waiting(int,int)", "int queued(int,int)", "int house(int)",
             "int row(int)", "long digest()");
+    /** Of static fields: int, long, boolean, char, String, and arrays of int, long, char and byte. */
+    private static final Set<String> CONSTANTS = Set.of(
+            "int", "long", "boolean", "char", "java.lang.String", "[I", "[J", "[C", "[B");
+    private static final Pattern METHOD = Pattern.compile(
+            "( {4}| {8})(?!if|for|while|switch|else)(?:[a-z]+ )*[\\w\\[\\]]+ \\w+\\([^;]*(?:\\) \\{)?");
     private static final String[] FORBIDDEN = {
         "\\bthrow\\b", "\\bthrows\\b", "\\btry\\b", "\\bcatch\\b", "\\bsynchronized\\b", "\\bassert\\b",
         "->", "::", "\\bstatic\\s*\\{", "\\bpackage\\b", "\\bThread\\b", "System\\.(?!arraycopy\\b)",
@@ -29,7 +34,13 @@ public final class LanguageTest {
     public static void main(String[] args) throws IOException {
         face();
         nestedClasses();
-        source(Files.readString(Path.of("src/main/java/LineMonitor.java")));
+        members(LineMonitor.class);
+        for (Class<?> c : LineMonitor.class.getDeclaredClasses()) {
+            members(c);
+        }
+        String text = Files.readString(Path.of("src/main/java/LineMonitor.java"));
+        source(text);
+        lengthsOfMethods(text);
         CHECK.finish();
     }
 
@@ -85,6 +96,44 @@ public final class LanguageTest {
             }
             CHECK.due(c.getName() + " has some twenty fields", fields <= 20 ? 1 : 0, 1);
         }
+    }
+
+    /** Rules 3, 5 and 11: static fields, their types, and how many parameters there are. */
+    private static void members(Class<?> c) {
+        for (Field f : c.getDeclaredFields()) {
+            String name = c.getName() + "." + f.getName();
+            Class<?> type = f.getType();
+            if (Modifier.isStatic(f.getModifiers())) {
+                CHECK.due(name + " is final", Modifier.isFinal(f.getModifiers()) ? 1 : 0, 1);
+                CHECK.due(name + " is a constant", CONSTANTS.contains(type.getName()) ? 1 : 0, 1);
+            }
+            Class<?> part = type.isArray() ? type.getComponentType() : type;
+            boolean isOwn = part.getName().startsWith("LineMonitor");
+            CHECK.due(name + " has one dimension", part.isArray() ? 1 : 0, 0);
+            CHECK.due(name + " is of a listed type", part.isPrimitive() || isOwn || part == String.class ? 1 : 0, 1);
+        }
+        for (Method m : c.getDeclaredMethods()) {
+            CHECK.due(c.getName() + "." + m.getName() + " has seven parameters at most",
+                    m.getParameterCount() <= 7 ? 1 : 0, 1);
+        }
+    }
+
+    /** Rule 11: a method's lines from its head to the brace below it. */
+    private static void lengthsOfMethods(String text) {
+        String[] lines = text.split("\n");
+        int methods = 0;
+        for (int i = 0; i < lines.length; i++) {
+            Matcher head = METHOD.matcher(lines[i]);
+            if (head.matches()) {
+                int last = i;
+                while (last < lines.length && !lines[last].equals(head.group(1) + "}")) {
+                    last++;
+                }
+                methods++;
+                CHECK.due(lines[i].strip() + " has sixty lines at most", last - i + 1 <= 60 ? 1 : 0, 1);
+            }
+        }
+        CHECK.due("the look finds the methods", methods >= FACE.size() ? 1 : 0, 1);
     }
 
     private static void source(String text) {
