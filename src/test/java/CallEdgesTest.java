@@ -22,6 +22,7 @@ public final class CallEdgesTest {
         feedAtTheEnd();
         endOfTheTape();
         assembleCounts();
+        assembleBehindALonger();
         assembleWithAFault();
         assembleRefused();
         faultOfTheLatest();
@@ -303,6 +304,32 @@ public final class CallEdgesTest {
         CHECK.due("the last of them", m.peek(0, 0200 + 3999 & 4095), 5);
         CHECK.due("the place behind it", m.peek(0, 0200 + 4000 & 4095), 0);
         CHECK.due("the place ahead of the first", m.peek(0, 0177), 0);
+    }
+
+    /** Of a longer TEXT ahead of it, with or without a FAULT, nothing comes along with a shorter one. */
+    private static void assembleBehindALonger() {
+        CHECK.says("its WORDS and LITERALS come into the memory of u: how many.");
+        String[] longer = {"1;2;3;*7777;4;*1000;TAD (5;TAD (6", "1;2;3;*7777;4;*1000;TAD (5;TAD (6;X"};
+        String[] shorter = {"", "7", "7;TAD (6"};
+        int[] counts = {0, 1, 3};
+        for (String before : longer) {
+            for (int i = 0; i < shorter.length; i++) {
+                Monitor m = Line.opened(2, 1, 1, 4);
+                boolean isFaulty = before.endsWith("X");
+                CHECK.due("WORDS of the longer", Line.assemble(m, 0, before), isFaulty ? -2 : 8);
+                CHECK.due("WORDS of the shorter", Line.assemble(m, 1, shorter[i]), counts[i]);
+                Monitor alone = Line.opened(2, 1, 1, 4);
+                if (!isFaulty) {
+                    Line.pokeAll(alone, 0, 0200, 1, 2, 3);
+                    alone.poke(0, 07777, 4);
+                    Line.pokeAll(alone, 0, 01000, 01377, 01376);
+                    Line.pokeAll(alone, 0, 01176, 6, 5);
+                }
+                Line.pokeAll(alone, 1, 0200, i == 0 ? 0 : 7, i == 2 ? 01377 : 0);
+                alone.poke(1, 0377, i == 2 ? 6 : 0);
+                CHECK.due("digest behind both", m.digest(), alone.digest());
+            }
+        }
     }
 
     private static void assembleWithAFault() {
