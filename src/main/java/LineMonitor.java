@@ -235,6 +235,9 @@ public final class LineMonitor {
 
     /** INPUT or OUTPUT: a row of letters that keeps its places from call to call. */
     private static final class Letters {
+        /** Also the mask that keeps a place in the ring. */
+        static final int LAST_PLACE = MOST_LETTERS - 1;
+
         final int[] ring = new int[MOST_LETTERS];
         int first;
         int size;
@@ -244,23 +247,24 @@ public final class LineMonitor {
             if (size >= MOST_LETTERS) {
                 return false;
             }
-            ring[(first + size) % MOST_LETTERS] = c;
+            ring[first + size & LAST_PLACE] = c;
             size++;
             return true;
         }
 
         /** The first letter, which goes; -1 if there is none. */
         int take() {
-            int c = at(0);
-            if (c >= 0) {
-                first = (first + 1) % MOST_LETTERS;
-                size--;
+            if (size <= 0) {
+                return -1;
             }
+            int c = ring[first & LAST_PLACE];
+            first = first + 1 & LAST_PLACE;
+            size--;
             return c;
         }
 
         int at(int i) {
-            return i < 0 || i >= size ? -1 : ring[(first + i) % MOST_LETTERS];
+            return i < 0 || i >= size ? -1 : ring[first + i & LAST_PLACE];
         }
     }
 
@@ -471,7 +475,7 @@ public final class LineMonitor {
         private void moveBlock(boolean intoMemory) {
             int a = words[pc & MASK];
             skip();
-            if (ac >= BLOCKS) {
+            if (!within(ac, 0, BLOCKS - 1)) {
                 ac = MASK;
                 return;
             }
@@ -493,14 +497,15 @@ public final class LineMonitor {
             if (c < 0) {
                 return false;
             }
-            paper[printed % PAPER_LETTERS] = c;
+            // A mask, for the remainder of a count that went round would be below 0.
+            paper[printed & PAPER_LETTERS - 1] = c;
             printed++;
             return true;
         }
 
         int onPaper(int i) {
             boolean there = i >= 0 && i < printed && i >= printed - PAPER_LETTERS;
-            return there ? paper[i % PAPER_LETTERS] : -1;
+            return there ? paper[i & PAPER_LETTERS - 1] : -1;
         }
 
         int tell(int what) {
